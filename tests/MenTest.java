@@ -98,6 +98,10 @@ public final class MenTest {
         Check.due("over of 1 by 19", x.of(1, 4), 13);
         Check.due("back of 1 by 19", x.of(1, 5), 7);
         Check.due("back of 0 by 19", x.of(0, 5), 0);
+        x.heap(20);
+        Check.village(x, "over 5 h=0;back 6 h=0");
+        Check.due("over of 0 by 20", x.of(0, 4), 5);
+        Check.due("back of 0 by 20", x.of(0, 5), 6);
         Check.village(x, "over 5 i=5");
         Check.due("none of the overs holds", x.of(0, 4), 0);
         Check.due("asking did nothing", x.told(4), 0);

@@ -97,6 +97,9 @@ public final class NightTest {
         x.heap(5);
         Check.village(x, "over 6 i=0");
         Check.due("less than is over", x.wake(0), -3);
+        x.heap(3);
+        Check.due("less than is over by a share", x.wake(0), -3);
+        Check.due("nothing came of it", x.told(2), 3);
     }
 
     private static void row() {

@@ -125,6 +125,12 @@ public final class TapeTest {
             Check.due("all of it", x.shift(0, 0, 1, 0, 6), 6);
             holds("all of it", x, 1, 1, 2, 3, 4, 5, 6);
         }
+        OneForDog full = new OneForDog();
+        full.tape(0, 1, 60);
+        full.item(0, 59, 7);
+        Check.due("all of sixty", full.shift(0, 0, 0, 0, 60), 60);
+        Check.due("the last to the first", full.shift(0, 59, 0, 0, 1), 1);
+        Check.due("the first", full.read(0, 0), 7);
         OneForDog x = counted(4);
         x.item(0, 1, 0);
         x.shift(0, 0, 1, 4, 2);

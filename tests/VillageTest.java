@@ -7,6 +7,7 @@ public final class VillageTest {
         nesting();
         clauses();
         longTexts();
+        nothingOfFaults();
         conditions();
         Check.end();
     }
@@ -151,6 +152,25 @@ public final class VillageTest {
         fault(whole + "1;", 100);
         fault(whole + "11", 99);
         good("over 11" + whole.substring(6, 98) + "1");
+    }
+
+    private static void nothingOfFaults() {
+        OneForDog x = Check.men(0, 0);
+        StringBuilder much = new StringBuilder("men 9;morning 7;over 3 i=0");
+        while (much.length() < 96) {
+            much.append("|i=0");
+        }
+        for (int i = 0; i < 9; i++) {
+            Check.due("much, " + i, Check.village(x, much + "!"), -10 - much.length());
+        }
+        Check.due("little", Check.village(x, "back 4 i=0&k=0;back 8 i=1|i=0"), 0);
+        Check.due("shares", x.told(0), 3);
+        Check.due("morning", x.told(1), 1);
+        Check.due("over", x.of(0, 4), 1);
+        Check.due("back", x.of(0, 5), 12);
+        Check.village(x, "over 5 i=0;over 6 i=0;x");
+        Check.due("less", Check.village(x, "over 2 i=0"), 1);
+        Check.due("less: over", x.of(0, 4), 2);
     }
 
     /** By v=5, i=1, k=1, w=0, h=7: which conditions hold. */

@@ -44,6 +44,9 @@ public final class WhoTest {
         Check.due("dusk 10000", x.up(10000, 0, 0), -2);
         Check.due("dawn 10000", x.up(0, 10000, 0), -2);
         Check.due("dusk and dawn 9999", x.up(9999, 9999, -1), 1);
+        Check.due("dusk and dawn 0", x.up(0, 0, -1), 1);
+        Check.due("dusk 1, dawn 0", x.up(1, 0, 0), 0);
+        Check.due("of 0 none becomes 1", x.up(0, 1, -1), 0);
         Check.due("k 5 of an empty row", x.up(9999, 9999, 5), -5);
     }
 

@@ -340,8 +340,7 @@ public final class OneForDog {
         if (!isMan(man) || act < 0 || act >= Bodies.ACTS) {
             return 0;
         }
-        bodies.actsFor(man, camp.kinds[man], camp.values[man]);
-        return bodies.does(act, x, camp.kinds[man], 0);
+        return bodies.actsFor(man, camp.kinds[man], camp.values[man], act, x);
     }
 
     public int trace(int i) {
@@ -1093,15 +1092,19 @@ public final class OneForDog {
             if (heap == dawn) {
                 keep(length);
             }
-            if (length < 0 || length >= men || length >= MEN) {
+            if (length < 0 || length >= men) {
                 return;
             }
             for (int man = 0; man < men; man++) {
-                boolean asleep = (awake >> man & 1) == 0;
-                if (asleep && wakings.comesOut(man, length, heap)) {
-                    up[length] = man;
-                    follow(wakings.left, length + 1, awake | 1 << man);
-                }
+                wakeNext(man, heap, length, awake);
+            }
+        }
+
+        private void wakeNext(int man, int heap, int length, int awake) {
+            boolean asleep = (awake >> man & 1) == 0;
+            if (asleep && length >= 0 && length < MEN && wakings.comesOut(man, length, heap)) {
+                up[length] = man;
+                follow(wakings.left, length + 1, awake | 1 << man);
             }
         }
 
@@ -1205,10 +1208,11 @@ public final class OneForDog {
             ran = 0;
         }
 
-        void actsFor(int man, int itsKind, int itsV) {
+        int actsFor(int man, int itsKind, int itsV, int act, int x) {
             i = man;
             kind = itsKind;
             v = itsV;
+            return does(act, x, kind, 0);
         }
 
         boolean hasKept(int at) {
@@ -1220,18 +1224,20 @@ public final class OneForDog {
         }
 
         /** The act by the body of this kind or of the next above that has one. */
-        int does(int act, int x, int from, int depth) {
+        private int does(int act, int x, int from, int depth) {
             int owner = from;
             for (int level = 0; level < LEVELS && number(owner, act) == 0; level++) {
                 owner = aboveOf(owner);
             }
-            if (depth > DEPTH) {
+            int body = number(owner, act);
+            if (body == 0 || depth > DEPTH) {
                 return 0;
             }
-            int above = aboveOf(owner);
-            int deeper = depth + 1;
-            int body = number(owner, act);
             begins(body);
+            return runs(body, x, aboveOf(owner), depth + 1);
+        }
+
+        private int runs(int body, int x, int above, int deeper) {
             switch (body) {
                 case 10:
                     return x + i;
