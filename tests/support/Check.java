@@ -2,15 +2,28 @@
 final class Check {
     private static int wrong = 0;
     private static int looked = 0;
+    private static int sentences = 0;
+    /** Which sentence of the document is tested, as far as the test has told. */
+    private static String sentence = "";
 
     private Check() {
+    }
+
+    /** What is due from here on is so by these words of the document, as one sees by the calls of this promise. */
+    static void sentence(int promise, String words) {
+        sentences++;
+        sentence = "promise " + promise + ", '" + words + "': ";
+        if (!Document.says(promise, words)) {
+            wrong++;
+            System.out.println(sentence + "the document does not say so");
+        }
     }
 
     static void due(String call, long got, long want) {
         looked++;
         if (got != want) {
             wrong++;
-            System.out.println(call + " answered " + got + ", due is " + want);
+            System.out.println(sentence + call + " answered " + got + ", due is " + want);
         }
     }
 
@@ -42,8 +55,16 @@ final class Check {
         }
     }
 
+    static void book(OneForDog x, int... heaps) {
+        x.book(-1);
+        for (int heap : heaps) {
+            x.book(heap);
+        }
+    }
+
     static void end() {
-        System.out.println(looked + " answers looked at, " + wrong + " not as due");
+        String told = sentences == 0 ? "" : sentences + " sentences, ";
+        System.out.println(told + looked + " answers looked at, " + wrong + " not as due");
         if (wrong != 0 || looked == 0) {
             System.exit(1);
         }
