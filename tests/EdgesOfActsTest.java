@@ -9,12 +9,15 @@ public final class EdgesOfActsTest {
         wrappingOfMen();
         wrappingOfOthers();
         nextKindAbove();
+        aboveTheBody();
+        fromTheLeft();
         traceBody();
         traceNone();
         traceOfLatest();
         firstTwenty();
         takenBad();
         takenNothing();
+        takenUnder();
         takenCast();
         takenFirstNamed();
         Check.end();
@@ -118,12 +121,18 @@ public final class EdgesOfActsTest {
         runs(1, 2, 12, 20, 11, 10);
         runs(2, 2, 12, 11, 30, 10);
         runs(4, 2, 12, 51, 20, 11, 50, 10);
+    }
+
+    private static void aboveTheBody() {
         Check.sentence(25, "super.wakes(..): so from the KIND above the body's on");
         runs(4, 0, 50, 10);
         runs(4, 1, 51, 20, 11, 50, 10);
         runs(6, 0, 71, 10);
         runs(6, 1, 70, 11, 71, 10, 10);
         runs(5, 2, 60, 12, 11, 30, 10);
+    }
+
+    private static void fromTheLeft() {
         Check.sentence(25, "all that stands in a body is done from the left on");
         runs(3, 2, 40, 12, 11, 10, 11, 10);
         runs(6, 2, 40, 12, 70, 11, 71, 10, 10, 70, 11, 71, 10, 10);
@@ -199,22 +208,30 @@ public final class EdgesOfActsTest {
         }
     }
 
-    private static void takenCast() {
+    private static final int[] ABOVE = {-1, 0, 0, 0, 1, 2, 3};
+
+    private static boolean isUnder(int kind, int k) {
+        return k == kind || k == ABOVE[kind] || k == 0;
+    }
+
+    private static void takenUnder() {
         Check.sentence(27, "A MAN taken for one of KIND k (0 .. 6), or one under that: his KIND");
-        int[] above = {-1, 0, 0, 0, 1, 2, 3};
         for (int kind = 0; kind < 7; kind++) {
             OneForDog x = Check.men(kind, 0);
             for (int k = 0; k < 7; k++) {
-                if (k == kind || k == 0 || k == above[kind]) {
+                if (isUnder(kind, k)) {
                     Check.due("kind " + kind + " taken for " + k, x.taken(0, k), kind);
                 }
             }
         }
+    }
+
+    private static void takenCast() {
         Check.sentence(27, "CAST");
         for (int kind = 0; kind < 7; kind++) {
             OneForDog x = Check.men(kind, 0);
             for (int k = 0; k < 7; k++) {
-                if (k != kind && k != 0 && k != above[kind]) {
+                if (!isUnder(kind, k)) {
                     Check.due("kind " + kind + " taken for " + k, x.taken(0, k), -12);
                 }
             }

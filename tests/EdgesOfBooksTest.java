@@ -94,7 +94,8 @@ public final class EdgesOfBooksTest {
     }
 
     private static void lookedFromOne() {
-        Check.sentence(21, "the first k (from 1) such that behind k WAKINGS THE HEAP is not the k-th (from 0; -5: none");
+        Check.sentence(21, "the first k (from 1) such that behind k WAKINGS THE HEAP is not the k-th "
+            + "(from 0; -5: none");
         OneForDog x = Check.men(0, 0);
         Check.row(x, 0, 0, 0);
         Check.book(x, 79, 52, 34, 22);
@@ -327,13 +328,14 @@ public final class EdgesOfBooksTest {
     }
 
     private static void imageHoldsAll() {
-        Check.sentence(23, "THE IMAGE: MEN, THE HEAP, HIDDEN, THE DOG's, WAKINGS, THE ROW, the BOOK, which VILLAGE holds");
+        Check.sentence(23, "THE IMAGE: MEN, THE HEAP, HIDDEN, THE DOG's, WAKINGS, THE ROW, the BOOK, "
+            + "which VILLAGE holds");
         OneForDog x = pictured();
         x.man(6, 9);
-        Check.village(x, "men 7;morning 8;over 0 i=0");
-        x.heap(49);
-        x.wake(0);
-        x.wake(0);
+        Check.village(x, "men 7;morning 8;over 5 i=0");
+        x.heap(54);
+        Check.due("another waking", x.wake(0), 7);
+        Check.due("THE DOG has more", x.told(3), 8);
         Check.row(x, 2, 2, 2);
         Check.book(x, 1, 2, 3);
         Check.due("undo()", x.undo(), 2);

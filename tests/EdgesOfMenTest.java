@@ -13,6 +13,7 @@ public final class EdgesOfMenTest {
         manBad();
         manFull();
         manFirstNamed();
+        hisNumber();
         menAsTheyCome();
         ofNone();
         partsByOwnNumber();
@@ -144,8 +145,19 @@ public final class EdgesOfMenTest {
         Check.due("a seventh of no v", x.man(6, 10), -2);
     }
 
-    private static void menAsTheyCome() {
+    private static void hisNumber() {
         Check.sentence(2, "A MAN: his number");
+        OneForDog x = new OneForDog();
+        Check.due("the first", x.man(6, 9), 0);
+        x.image();
+        Check.due("the second", x.man(6, 9), 1);
+        x.undo();
+        Check.due("the second again, behind undo()", x.man(0, 0), 1);
+        Check.due("he is the later one", x.of(1, 0), 0);
+    }
+
+    private static void menAsTheyCome() {
+        Check.sentence(2, "MEN 0 .. 5, as they come");
         OneForDog x = new OneForDog();
         x.man(7, 0);
         Check.due("the first, behind a refused one", x.man(5, 3), 0);

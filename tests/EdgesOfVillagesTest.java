@@ -13,6 +13,7 @@ public final class EdgesOfVillagesTest {
         newestHolds();
         villageFull();
         faultOfFaults();
+        manyFaults();
         oneToTenClauses();
         semicolonsBetween();
         oneBlank();
@@ -115,7 +116,8 @@ public final class EdgesOfVillagesTest {
         OneForDog x = Check.men(0, 0);
         x.heap(9);
         for (int i = 0; i < 6; i++) {
-            Check.village(x, "men " + (i + 4) + ";morning " + i + ";over " + (i + 10) + " h=9;back " + (i + 30) + " h=9");
+            String rules = ";over " + (i + 10) + " h=9;back " + (i + 30) + " h=9";
+            Check.village(x, "men " + (i + 4) + ";morning " + i + rules);
             Check.due("villages", x.count(1), i + 1);
             Check.due("SHARES of " + i, x.told(0), i + 4);
             Check.due("MORNING of " + i, x.told(1), i);
@@ -157,7 +159,8 @@ public final class EdgesOfVillagesTest {
         Check.due("bytes", x.count(4), 0);
         Check.due("villages", x.count(1), 0);
         Check.village(x, "men 8;morning 6;over 9 i=0;back 4 i=0");
-        Check.due("one holds: a fault", Check.village(x, "men 5;morning 7;over 1 i=0;over 2 i=0;back 3 i=0;"), -10 - 49);
+        String early = "men 5;morning 7;over 1 i=0;over 2 i=0;back 3 i=0;";
+        Check.due("one holds: a fault", Check.village(x, early), -10 - 49);
         Check.due("SHARES stay", x.told(0), 8);
         Check.due("MORNING stays", x.told(1), 6);
         Check.due("OVER stays", x.of(0, 4), 9);
@@ -169,6 +172,10 @@ public final class EdgesOfVillagesTest {
         Check.due("its MORNING", x.told(1), 1);
         Check.due("its OVER", x.of(0, 4), 7);
         Check.due("its BACK", x.of(0, 5), 0);
+        Check.village(x, "over 5 i=0;over 6 i=0;x");
+        Check.due("one without an over behind a fault with two", Check.village(x, "back 2 i=0"), 2);
+        Check.due("its OVER", x.of(0, 4), 1);
+        Check.due("its BACK", x.of(0, 5), 2);
     }
 
     /** The text has its fault at this place. */
@@ -178,6 +185,24 @@ public final class EdgesOfVillagesTest {
 
     private static void good(String text) {
         Check.due("'" + text + "'", Check.village(new OneForDog(), text), 0);
+    }
+
+    private static void manyFaults() {
+        Check.sentence(6, "(the one that held holds; THE TEXT is empty)");
+        OneForDog x = Check.men(0, 0);
+        Check.village(x, "men 8");
+        StringBuilder much = new StringBuilder("over 3 i=0;back 4 i=0");
+        while (much.length() < 97) {
+            much.append("|i=0");
+        }
+        for (int i = 0; i < 3; i++) {
+            Check.due("fault " + i, Check.village(x, much + "!"), -10 - much.length());
+            Check.due("it holds", x.told(0), 8);
+            Check.due("bytes", x.count(4), 0);
+        }
+        Check.due("a good one then", Check.village(x, "back 4 i=0&k=0;back 8 i=1|i=0"), 1);
+        Check.due("its OVER", x.of(0, 4), 1);
+        Check.due("its BACK", x.of(0, 5), 12);
     }
 
     private static void oneToTenClauses() {
@@ -192,13 +217,15 @@ public final class EdgesOfVillagesTest {
         fault(text + ";men 1", text.length());
         fault(text + ";", text.length());
         fault(text + ";;", text.length());
-        String rules = "over 1 i=0;back 2 i=0;over 4 i=0;back 8 i=0;over 1 i=0;back 2 i=0;men 2;men 4;over 9 i=0;back 9 i=0";
+        String rules = "over 1 i=0;back 2 i=0;over 4 i=0;back 8 i=0;over 1 i=0;back 2 i=0;"
+            + "men 2;men 4;over 9 i=0;back 9 i=0";
         OneForDog x = Check.men(0, 0);
         Check.due("ten clauses, eight of them rules", Check.village(x, rules), 0);
         Check.due("their overs", x.of(0, 4), 15);
         Check.due("their backs", x.of(0, 5), 21);
         OneForDog y = Check.men(0, 0);
-        Check.village(y, "over 1 i=0;over 2 i=0;over 3 i=0;over 4 i=0;over 5 i=0;over 6 i=0;over 7 i=0;over 8 i=0;over 9 i=0");
+        Check.village(y, "over 1 i=0;over 2 i=0;over 3 i=0;over 4 i=0;over 5 i=0;over 6 i=0;over 7 i=0;"
+            + "over 8 i=0;over 9 i=0");
         Check.due("nine overs, no more have room", y.of(0, 4), 45);
     }
 

@@ -6,6 +6,7 @@ public final class EdgesOfWakingsTest {
         wakeNone();
         doesNotComeOut();
         as9999();
+        goOnBeyond();
         overOrMore();
         nothingLeft();
         dogHasMore();
@@ -68,8 +69,7 @@ public final class EdgesOfWakingsTest {
     }
 
     /** Behind the 512th call nothing is promised; no other run of calls shows what the document names here. */
-    private static void as9999() {
-        Check.sentence(8, "or there were 9999");
+    private static OneForDog behind9999() {
         OneForDog x = Check.men(4, 0);
         Check.village(x, "over 0 w<60;over 1 w=39;over 2 w=40");
         Check.row(x, 0, 0);
@@ -81,12 +81,22 @@ public final class EdgesOfWakingsTest {
             }
         }
         Check.due("refused of 9999", refused, 0);
+        return x;
+    }
+
+    private static void as9999() {
+        Check.sentence(8, "or there were 9999");
+        OneForDog x = behind9999();
         Check.due("wakings", x.told(4), 9999);
         x.heap(1);
         Check.due("one more", x.wake(0), -3);
         Check.due("wakings still", x.told(4), 9999);
         Check.due("heap still", x.told(2), 1);
+    }
+
+    private static void goOnBeyond() {
         Check.sentence(14, "(WAKINGS go on beyond 9999 there)");
+        OneForDog x = behind9999();
         Check.due("w 39 behind 9999, then w 40: the dog's", x.left(13, -2), 3);
         Check.due("w 39 behind 9999, then w 40: the rest", x.left(13, -1), 10);
     }

@@ -26,6 +26,8 @@ public final class NothingChangesTest {
         refusedTapes();
         refusedByFull();
         refusedFromNothing();
+        faultOfAText();
+        noAct();
         askedOfMen();
         askedOfNights();
         askedOfTheRest();
@@ -34,6 +36,12 @@ public final class NothingChangesTest {
 
     /** Of all there is something, and of nothing as much as it can hold. */
     private static OneForDog busy() {
+        OneForDog x = withoutText();
+        Check.feed(x, "men 7;morni");
+        return x;
+    }
+
+    private static OneForDog withoutText() {
         OneForDog x = Check.men(0, 0, 1, 3, 5, 0);
         Check.village(x, "men 4;morning 2");
         x.heap(29);
@@ -51,7 +59,6 @@ public final class NothingChangesTest {
             x.item(tape, 1, 200000 + tape);
         }
         x.act(2, 2, 5);
-        Check.feed(x, "men 7;morni");
         return x;
     }
 
@@ -245,6 +252,30 @@ public final class NothingChangesTest {
         changesNothing(OneForDog::new, "undo() without an image", OneForDog::undo, -3);
         Check.sentence(8, REFUSED);
         changesNothing(OneForDog::new, "wake(0) of nobody", x -> x.wake(0), -1);
+    }
+
+    private static void faultOfAText() {
+        Check.sentence(6, "(the one that held holds; THE TEXT is empty)");
+        String text = "men 9;morning 9;over 9 i=0;back 9 i=0;";
+        changesNothing(NothingChangesTest::withoutText, text, x -> Check.village(x, text), -10 - text.length());
+        changesNothing(NothingChangesTest::withoutText, "no text", OneForDog::village, -10);
+    }
+
+    private static OneForDog behindNoAct() {
+        OneForDog x = busy();
+        x.act(0, 3, 0);
+        return x;
+    }
+
+    private static void noAct() {
+        Check.sentence(25, "0, and no TRACE then: no such MAN, act");
+        changesNothing(NothingChangesTest::behindNoAct, "act(3, 2, 5)", x -> x.act(3, 2, 5), 0);
+        changesNothing(NothingChangesTest::behindNoAct, "act(2, -1, 5)", x -> x.act(2, -1, 5), 0);
+        List<String> ahead = tells(busy());
+        List<String> behind = tells(behindNoAct());
+        ahead.removeIf(told -> told.startsWith("trace(") || told.startsWith("count(5)"));
+        behind.removeIf(told -> told.startsWith("trace(") || told.startsWith("count(5)"));
+        Check.due("but for THE TRACE all is as it was", ahead.equals(behind) ? 1 : 0, 1);
     }
 
     private static void asked(int promise, String name, long due, Call call) {

@@ -33,7 +33,8 @@ public final class SentencesTest {
         Matcher brackets = BRACKETS.matcher(Document.terms());
         while (brackets.find()) {
             String words = brackets.group();
-            Check.due("tests for '" + words + "' in the Terms", NO_BOUNDS.contains(words) || isQuoted(words) ? 1 : 0, 1);
+            boolean tested = NO_BOUNDS.contains(words) || isQuoted(words);
+            Check.due("tests for '" + words + "' in the Terms", tested ? 1 : 0, 1);
         }
         Check.end();
     }
